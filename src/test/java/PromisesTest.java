@@ -80,6 +80,8 @@ public final class PromisesTest {
         idle();
         means();
         errorsChangeNothing();
+        fullRows();
+        wholeState();
         System.out.println(wrong == 0 ? "all answers are as due" : wrong + " answers are not as due");
         if (wrong != 0) {
             System.exit(1);
@@ -283,6 +285,9 @@ public final class PromisesTest {
         due("the last one", log.fail(4), 4);
         due("gone", log.group(2, 0), 5);
         due("no group gathers", log.count(2), NONE);
+        log.undo();
+        due("undone", log.open(4), 4);
+        log.fail(4);
         due("an answered client is not busy", log.fail(1), NONE);
     }
 
@@ -300,6 +305,9 @@ public final class PromisesTest {
         due("withdrawn", log.commit(1, 3), 6);
         due("not busy", log.open(1), NONE);
         due("not again", log.withdraw(1), NOT_POSSIBLE);
+        log.undo();
+        due("undone", log.open(1), 1);
+        due("withdrawn anew", log.withdraw(1), 2);
         due("its group yet", log.commit(1, 6), 0);
         due("second member", log.member(0, 1), 2);
         due("records", log.group(0, 2), 4);
@@ -1012,5 +1020,137 @@ public final class PromisesTest {
         due("the time before the tick", log.count(0), 3);
         due("history", log.undo(), 2);
         due("before the commit", log.total(0), 0);
+    }
+
+    /** 150 commits in 150 groups, of which 149 are queued, all with lost members. */
+    private static void fullRows() {
+        promise = "full rows";
+        GroupCommits log = new GroupCommits();
+        log.set(FIXED, 20);
+        for (int i = 0; i < 150; i++) {
+            due("submit", log.submit(0, 8, true), i);
+            if (i < 149) {
+                due("fail", log.fail(0), i);
+            }
+        }
+        due("queued groups", log.count(4), 149);
+        due("the last queued one", log.queued(148), 149);
+        due("no more", log.queued(149), NONE);
+        due("the last member", log.member(149, 0), 149);
+        due("no second member", log.member(149, 1), NONE);
+        due("no such group", log.group(150, 0), NO_SUCH);
+        due("no such commit", log.commit(150, 0), NO_SUCH);
+        due("the last one is answered in", log.answeredIn(0), 150 * 22);
+        due("idle in", log.idleIn(), 150 * 22);
+        due("too many", log.ifSubmitted(1, true), TOO_MANY);
+        for (int round = 0; round < 33; round++) {
+            due("none is answered", log.tick(99), 0);
+        }
+        due("one is answered", log.tick(99), 1);
+        due("at", log.commit(149, 5), 3300);
+        due("records on the disk", log.total(6), 1200);
+        due("written groups", log.total(5), 150);
+        due("undone", log.undo(), 3);
+        due("the last but one is being written", log.count(3), 148);
+        due("the last one is queued", log.queued(0), 149);
+        due("lost by a crash", log.crash(), 1);
+        due("gone", log.group(149, 0), 5);
+    }
+
+    private static GroupCommits ofAllKinds() {
+        GroupCommits log = new GroupCommits();
+        makeAllKinds(log);
+        return log;
+    }
+
+    private static void makeAllKinds(GroupCommits log) {
+        log.set(LEARN, 0);
+        log.set(MOST, 9);
+        log.submit(0, 5, false);
+        log.submit(1, 3, false);
+        log.withdraw(1);
+        log.submit(2, 2, true);
+        log.submit(3, 7, true);
+        log.submit(4, 6, true);
+        log.submit(5, 4, true);
+        log.fail(5);
+        log.tick(6);
+        log.submit(6, 1, false);
+        log.submit(7, 8, false);
+    }
+
+    private static void dueSame(String when, GroupCommits log, GroupCommits like) {
+        for (int what = 0; what < 10; what++) {
+            due(when + ", count " + what, log.count(what), like.count(what));
+            due(when + ", total " + what, log.total(what), like.total(what));
+        }
+        for (int number = 0; number < 12; number++) {
+            for (int what = 0; what < 7; what++) {
+                due(when + ", commit " + number + " " + what, log.commit(number, what), like.commit(number, what));
+                due(when + ", group " + number + " " + what, log.group(number, what), like.group(number, what));
+                due(when + ", member " + number + " " + what, log.member(number, what), like.member(number, what));
+            }
+            due(when + ", open " + number, log.open(number), like.open(number));
+            due(when + ", queued " + number, log.queued(number), like.queued(number));
+            due(when + ", answered " + number, log.answeredIn(number), like.answeredIn(number));
+        }
+        due(when + ", mean", log.mean(), like.mean());
+    }
+
+    private static void changeAll(GroupCommits log) {
+        log.crash();
+        log.set(FIXED, 7);
+        for (int client = 11; client >= 0; client--) {
+            log.submit(client, 1 + client % 8, client % 2 == 0);
+            log.withdraw(client);
+        }
+        log.tick(99);
+    }
+
+    /** All of the state comes back, also when the present one was quite another. */
+    private static void wholeState() {
+        promise = "the whole state";
+        GroupCommits like = ofAllKinds();
+        GroupCommits log = ofAllKinds();
+        dueSame("made alike", log, like);
+        log.save();
+        changeAll(log);
+        log.restore();
+        dueSame("restored", log, like);
+        log.crash();
+        log.undo();
+        dueSame("undone", log, like);
+        log.tick(50);
+        log.undo();
+        dueSame("undone after ticks", log, like);
+        log.save();
+        log.clearText();
+        write(log, "*;1:1;2:1;3:1!;+9;f1;8:8");
+        log.run();
+        log.undo();
+        dueSame("a script undone", log, like);
+        log.tick(9);
+        like.tick(9);
+        dueSame("goes on alike", log, like);
+        log.restore();
+        dueSame("restored again", log, ofAllKinds());
+        overwritten();
+    }
+
+    /** The rows of the state were filled with other commits and groups before it comes back. */
+    private static void overwritten() {
+        GroupCommits log = new GroupCommits();
+        log.save();
+        makeAllKinds(log);
+        log.restore();
+        write(log, "11:8;10:7;w11;+9;9:8!;8:6;7:5!;6:4!;f6;5:3!;4:2!;3:1!;2:8!;1:7!");
+        due("another state", log.run(), 14);
+        due("its undo", log.undo(), 3);
+        due("the undo of the restoring", log.undo(), 2);
+        dueSame("overwritten", log, ofAllKinds());
+        log.tick(9);
+        GroupCommits like = ofAllKinds();
+        like.tick(9);
+        dueSame("goes on alike", log, like);
     }
 }
