@@ -7,8 +7,10 @@ import java.util.Random;
  * lists instead of rows, whole copies instead of rows filled again, and what would be is found by making the ticks.
  */
 public final class ModelTest {
-    private static final int RUNS = 800;
-    private static final int CALLS = 400;
+    private static final int RUNS = 1200;
+    private static final int MOST_CALLS = 512;
+    // A script, with a call for each character, and some queries still fit in when so many were made.
+    private static final int MOST_MADE = 370;
 
     private static final class Commit {
         int client, records, state = 1, submitted, answered = -5, group;
@@ -474,10 +476,19 @@ public final class ModelTest {
         }
     }
 
+    /** A call of the program. */
+    private interface Call {
+        double on(GroupCommits log);
+    }
+
     private final Random random;
-    private final GroupCommits log = new GroupCommits();
     private final Whole model = new Whole();
     private final StringBuilder calls = new StringBuilder();
+    // All calls that can change something, by which a log is made anew when it has been asked much.
+    private final List<Call> made = new ArrayList<>();
+    private GroupCommits log = new GroupCommits();
+    private int callsOfLog;
+    private boolean hasScripts;
     private boolean isWrong;
 
     private ModelTest(long seed) {
@@ -490,6 +501,32 @@ public final class ModelTest {
             isWrong = true;
             System.out.println(calls + "due is " + want);
         }
+    }
+
+    private void act(String name, Call call, double want) {
+        if (callsOfLog >= MOST_CALLS) {
+            remake();
+        }
+        made.add(call);
+        callsOfLog++;
+        same(name, call.on(log), want);
+    }
+
+    private void ask(String name, Call call, double want) {
+        if (callsOfLog >= MOST_CALLS) {
+            remake();
+        }
+        callsOfLog++;
+        same(name, call.on(log), want);
+    }
+
+    /** A log with the same past, but without the queries, since only 512 calls are promised. */
+    private void remake() {
+        log = new GroupCommits();
+        for (Call call : made) {
+            call.on(log);
+        }
+        callsOfLog = made.size();
     }
 
     private int near(int least, int greatest) {
@@ -514,66 +551,73 @@ public final class ModelTest {
         Model before = model.now.copy();
         int client = near(0, 11);
         switch (random.nextInt(12)) {
-            case 0: case 1: case 2: case 3: case 4: {
-                int records = near(1, 8);
-                boolean urgent = random.nextInt(urgentIn) == 0;
-                same("submit " + client + " " + records + " " + urgent, log.submit(client, records, urgent),
-                    refusedOrDone(model.now.submit(client, records, urgent), before));
+            case 0: case 1: case 2: case 3: case 4:
+                submit(client, random.nextInt(urgentIn) == 0, before);
                 break;
-            }
             case 5: {
                 int want = model.now.fail(client);
                 refusedOrDone(want == -5 ? 0 : want, before);
-                same("fail " + client, log.fail(client), want);
+                act("fail " + client, log -> log.fail(client), want);
                 break;
             }
             case 6:
-                same("withdraw " + client, log.withdraw(client), refusedOrDone(model.now.withdraw(client), before));
+                act("withdraw " + client, log -> log.withdraw(client), refusedOrDone(model.now.withdraw(client), before));
                 break;
             case 7: case 8: {
                 int ticks = near(1, ticksMost);
-                same("tick " + ticks, log.tick(ticks), refusedOrDone(model.now.ticks(ticks), before));
+                act("tick " + ticks, log -> log.tick(ticks), refusedOrDone(model.now.ticks(ticks), before));
                 break;
             }
             case 9: {
                 int setting = near(0, 3);
                 int value = setting == 3 ? near(0, 1) : near(setting == 0 ? 0 : 1, setting == 1 ? 40 : 20);
-                same("set " + setting + " " + value, log.set(setting, value),
+                act("set " + setting + " " + value, log -> log.set(setting, value),
                     refusedOrDone(model.now.set(setting, value), before));
                 break;
             }
             case 10:
-                script();
+                // A script costs a call for each of its characters, so runs without any come to more commits.
+                if (hasScripts) {
+                    script();
+                } else {
+                    submit(client, true, before);
+                }
                 break;
             default:
                 rare(before);
         }
     }
 
+    private void submit(int client, boolean urgent, Model before) {
+        int records = near(1, 8);
+        act("submit " + client + " " + records + " " + urgent, log -> log.submit(client, records, urgent),
+            refusedOrDone(model.now.submit(client, records, urgent), before));
+    }
+
     private void rare(Model before) {
         switch (random.nextInt(6)) {
             case 0:
-                same("crash", log.crash(), refusedOrDone(model.now.crash(), before));
+                act("crash", log -> log.crash(), refusedOrDone(model.now.crash(), before));
                 break;
             case 1: case 2:
                 if (!model.history.isEmpty()) {
                     model.now = model.history.remove(model.history.size() - 1);
-                    same("undo", log.undo(), model.history.size());
+                    act("undo", log -> log.undo(), model.history.size());
                 } else {
-                    same("undo", log.undo(), -5);
+                    act("undo", log -> log.undo(), -5);
                 }
                 break;
             case 3:
                 model.snapshot = model.now.copy();
-                same("save", log.save(), model.now.time);
+                act("save", log -> log.save(), model.now.time);
                 break;
             default:
                 if (model.snapshot == null) {
-                    same("restore", log.restore(), -4);
+                    act("restore", log -> log.restore(), -4);
                 } else {
                     model.push();
                     model.now = model.snapshot.copy();
-                    same("restore", log.restore(), model.now.time);
+                    act("restore", log -> log.restore(), model.now.time);
                 }
         }
     }
@@ -596,11 +640,11 @@ public final class ModelTest {
 
     private void script() {
         if (random.nextInt(3) > 0) {
-            same("clearText", log.clearText(), model.text.length());
+            act("clearText", log -> log.clearText(), model.text.length());
             model.text = "";
         }
         StringBuilder added = new StringBuilder(order());
-        for (int orders = random.nextInt(random.nextInt(8) == 0 ? 30 : 6); orders > 0; orders--) {
+        for (int orders = random.nextInt(random.nextInt(8) == 0 ? 20 : 6); orders > 0; orders--) {
             added.append(';').append(order());
         }
         if (random.nextInt(3) == 0) {
@@ -614,62 +658,138 @@ public final class ModelTest {
             if (want > 0) {
                 model.text += (char) character;
             }
-            same("append " + character, log.append(character), want);
+            act("append " + character, log -> log.append(character), want);
         }
-        same("fault of " + model.text, log.fault(), model.fault());
-        same("run", log.run(), model.run());
+        ask("fault of " + model.text, log -> log.fault(), model.fault());
+        act("run", log -> log.run(), model.run());
     }
 
     private void someQueries() {
-        int client = near(0, 11);
-        int commit = near(0, Math.max(0, model.now.commits.size() - 1));
+        askOpen(near(0, 11));
+        askCommit(near(0, Math.max(0, model.now.commits.size() - 1)), near(0, 6));
         int group = near(0, Math.max(0, model.now.groups.size() - 1));
-        int what = near(0, 6);
-        int place = near(0, 4);
-        int records = near(1, 8);
-        boolean urgent = random.nextBoolean();
-        same("commit " + commit + " " + what, log.commit(commit, what), model.now.commit(commit, what));
-        same("group " + group + " " + what, log.group(group, what), model.now.group(group, what));
-        same("member " + group + " " + place, log.member(group, place), model.now.member(group, place));
-        same("queued " + place, log.queued(place), model.now.queued(place));
-        same("answeredIn " + client, log.answeredIn(client), model.now.answeredIn(client));
-        same("ifSubmitted " + records + " " + urgent, log.ifSubmitted(records, urgent),
-            model.now.ifSubmitted(records, urgent));
-        same("idleIn", log.idleIn(), model.now.idleIn());
+        askGroup(group, near(0, 6));
+        askMember(group, near(0, 4));
+        askQueued(near(0, 4));
+        askCount(near(0, 11));
+        askTotal(near(0, 7));
+        askIfSubmitted(near(1, 8), random.nextBoolean());
+        ask("idleIn", log -> log.idleIn(), model.now.idleIn());
     }
 
     private void allQueries() {
         for (int what = -1; what <= 12; what++) {
-            same("count " + what, log.count(what), model.now.count(what, model.history.size(), model.text.length()));
-            same("total " + what, log.total(what), model.now.total(what));
+            askCount(what);
+            askTotal(what);
         }
         for (int client = -1; client <= 12; client++) {
-            int want = client < 0 || client > 11 ? -1 : model.now.open(client);
-            same("open " + client, log.open(client), want);
-            same("answeredIn " + client, log.answeredIn(client), model.now.answeredIn(client));
+            askOpen(client);
         }
         for (int number = -1; number <= model.now.commits.size(); number++) {
             for (int what = -1; what <= 7; what++) {
-                same("commit " + number + " " + what, log.commit(number, what), model.now.commit(number, what));
-                same("group " + number + " " + what, log.group(number, what), model.now.group(number, what));
-                same("member " + number + " " + what, log.member(number, what), model.now.member(number, what));
+                askCommit(number, what);
+                askGroup(number, what);
+                askMember(number, what);
             }
-            same("queued " + number, log.queued(number), model.now.queued(number));
+            askQueued(number);
         }
-        same("mean", log.mean(), model.now.mean());
+        for (int records = 0; records <= 9; records++) {
+            askIfSubmitted(records, false);
+            askIfSubmitted(records, true);
+        }
+        ask("mean", log -> log.mean(), model.now.mean());
+    }
+
+    private void askOpen(int client) {
+        int open = client < 0 || client > 11 ? -1 : model.now.open(client);
+        ask("open " + client, log -> log.open(client), open);
+        ask("answeredIn " + client, log -> log.answeredIn(client), model.now.answeredIn(client));
+    }
+
+    private void askCommit(int commit, int what) {
+        ask("commit " + commit + " " + what, log -> log.commit(commit, what), model.now.commit(commit, what));
+    }
+
+    private void askGroup(int group, int what) {
+        ask("group " + group + " " + what, log -> log.group(group, what), model.now.group(group, what));
+    }
+
+    private void askMember(int group, int place) {
+        ask("member " + group + " " + place, log -> log.member(group, place), model.now.member(group, place));
+    }
+
+    private void askQueued(int place) {
+        ask("queued " + place, log -> log.queued(place), model.now.queued(place));
+    }
+
+    private void askCount(int what) {
+        int want = model.now.count(what, model.history.size(), model.text.length());
+        ask("count " + what, log -> log.count(what), want);
+    }
+
+    private void askTotal(int what) {
+        ask("total " + what, log -> log.total(what), model.now.total(what));
+    }
+
+    private void askIfSubmitted(int records, boolean urgent) {
+        ask("ifSubmitted " + records + " " + urgent, log -> log.ifSubmitted(records, urgent),
+            model.now.ifSubmitted(records, urgent));
+    }
+
+    // ---- beginnings, since many commits or a long wait hardly come by chance
+
+    private void write(String text) {
+        act("clearText", log -> log.clearText(), model.text.length());
+        model.text = text;
+        for (int i = 0; i < text.length(); i++) {
+            char character = text.charAt(i);
+            act("append " + character, log -> log.append(character), i + 1);
+        }
+    }
+
+    private void submitMany() {
+        write("0:1;w0;".repeat(10) + "0:1;f0");
+        for (int runs = 9 + random.nextInt(5); runs > 0; runs--) {
+            act("run", log -> log.run(), model.run());
+        }
+    }
+
+    private void learnToWait() {
+        write("0:1;1:1!;+4");
+        Model before = model.now.copy();
+        act("set 0 20", log -> log.set(0, 20), refusedOrDone(model.now.set(0, 20), before));
+        for (int runs = random.nextInt(20); runs > 0; runs--) {
+            act("run", log -> log.run(), model.run());
+        }
+    }
+
+    private void begin() {
+        Model before = model.now.copy();
+        switch (random.nextInt(5)) {
+            case 0:
+                submitMany();
+                break;
+            case 1:
+                learnToWait();
+                break;
+            case 2:
+                act("set 3 0", log -> log.set(3, 0), refusedOrDone(model.now.set(3, 0), before));
+                break;
+            default:
+                break;
+        }
     }
 
     /** Whether the run went as the model says. */
     private boolean go() {
         int ticksMost = random.nextBoolean() ? 5 : 1 + random.nextInt(99);
         int urgentIn = 1 + random.nextInt(8);
-        for (int call = 0; call < CALLS && !isWrong; call++) {
+        hasScripts = random.nextBoolean();
+        begin();
+        while (made.size() < MOST_MADE && !isWrong) {
             action(ticksMost, urgentIn);
             if (random.nextInt(4) == 0) {
                 someQueries();
-            }
-            if (random.nextInt(100) == 0) {
-                allQueries();
             }
         }
         allQueries();

@@ -81,7 +81,6 @@ public final class PromisesTest {
         means();
         errorsChangeNothing();
         fullRows();
-        wholeState();
         System.out.println(wrong == 0 ? "all answers are as due" : wrong + " answers are not as due");
         if (wrong != 0) {
             System.exit(1);
@@ -1055,102 +1054,5 @@ public final class PromisesTest {
         due("the last one is queued", log.queued(0), 149);
         due("lost by a crash", log.crash(), 1);
         due("gone", log.group(149, 0), 5);
-    }
-
-    private static GroupCommits ofAllKinds() {
-        GroupCommits log = new GroupCommits();
-        makeAllKinds(log);
-        return log;
-    }
-
-    private static void makeAllKinds(GroupCommits log) {
-        log.set(LEARN, 0);
-        log.set(MOST, 9);
-        log.submit(0, 5, false);
-        log.submit(1, 3, false);
-        log.withdraw(1);
-        log.submit(2, 2, true);
-        log.submit(3, 7, true);
-        log.submit(4, 6, true);
-        log.submit(5, 4, true);
-        log.fail(5);
-        log.tick(6);
-        log.submit(6, 1, false);
-        log.submit(7, 8, false);
-    }
-
-    private static void dueSame(String when, GroupCommits log, GroupCommits like) {
-        for (int what = 0; what < 10; what++) {
-            due(when + ", count " + what, log.count(what), like.count(what));
-            due(when + ", total " + what, log.total(what), like.total(what));
-        }
-        for (int number = 0; number < 12; number++) {
-            for (int what = 0; what < 7; what++) {
-                due(when + ", commit " + number + " " + what, log.commit(number, what), like.commit(number, what));
-                due(when + ", group " + number + " " + what, log.group(number, what), like.group(number, what));
-                due(when + ", member " + number + " " + what, log.member(number, what), like.member(number, what));
-            }
-            due(when + ", open " + number, log.open(number), like.open(number));
-            due(when + ", queued " + number, log.queued(number), like.queued(number));
-            due(when + ", answered " + number, log.answeredIn(number), like.answeredIn(number));
-        }
-        due(when + ", mean", log.mean(), like.mean());
-    }
-
-    private static void changeAll(GroupCommits log) {
-        log.crash();
-        log.set(FIXED, 7);
-        for (int client = 11; client >= 0; client--) {
-            log.submit(client, 1 + client % 8, client % 2 == 0);
-            log.withdraw(client);
-        }
-        log.tick(99);
-    }
-
-    /** All of the state comes back, also when the present one was quite another. */
-    private static void wholeState() {
-        promise = "the whole state";
-        GroupCommits like = ofAllKinds();
-        GroupCommits log = ofAllKinds();
-        dueSame("made alike", log, like);
-        log.save();
-        changeAll(log);
-        log.restore();
-        dueSame("restored", log, like);
-        log.crash();
-        log.undo();
-        dueSame("undone", log, like);
-        log.tick(50);
-        log.undo();
-        dueSame("undone after ticks", log, like);
-        log.save();
-        log.clearText();
-        write(log, "*;1:1;2:1;3:1!;+9;f1;8:8");
-        log.run();
-        log.undo();
-        dueSame("a script undone", log, like);
-        log.tick(9);
-        like.tick(9);
-        dueSame("goes on alike", log, like);
-        log.restore();
-        dueSame("restored again", log, ofAllKinds());
-        overwritten();
-    }
-
-    /** The rows of the state were filled with other commits and groups before it comes back. */
-    private static void overwritten() {
-        GroupCommits log = new GroupCommits();
-        log.save();
-        makeAllKinds(log);
-        log.restore();
-        write(log, "11:8;10:7;w11;+9;9:8!;8:6;7:5!;6:4!;f6;5:3!;4:2!;3:1!;2:8!;1:7!");
-        due("another state", log.run(), 14);
-        due("its undo", log.undo(), 3);
-        due("the undo of the restoring", log.undo(), 2);
-        dueSame("overwritten", log, ofAllKinds());
-        log.tick(9);
-        GroupCommits like = ofAllKinds();
-        like.tick(9);
-        dueSame("goes on alike", log, like);
     }
 }
