@@ -777,12 +777,15 @@ public final class StatesTest {
             log.submit(3, 5, true);
         };
         Calls other = log -> {
+            log.tick(1);
             log.submit(4, 1, false);
             log.withdraw(4);
             log.submit(5, 2, false);
             log.fail(5);
+            log.tick(5);
             log.submit(6, 3, true);
             log.submit(7, 4, true);
+            log.tick(4);
         };
         Calls restoredFirst = log -> {
             first.on(log);
@@ -803,10 +806,10 @@ public final class StatesTest {
             log.submit(0, 8, true);
             other.on(log);
             log.save();
-            log.crash();
             for (int i = 0; i < 4; i++) {
                 log.undo();
             }
+            log.tick(3);
             log.submit(1, 7, true);
             log.submit(2, 6, false);
             log.submit(3, 5, true);
