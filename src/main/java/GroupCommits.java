@@ -990,8 +990,16 @@ public final class GroupCommits {
                 oldest = (oldest + 1) % ROOM;
                 size--;
             }
-            states[(oldest + size) % ROOM].copyFrom(now);
-            size++;
+            Log state = stateAt(size);
+            if (state != null) {
+                state.copyFrom(now);
+                size++;
+            }
+        }
+
+        private Log stateAt(int place) {
+            int slot = (oldest + place) % ROOM;
+            return slot >= 0 && slot < ROOM ? states[slot] : null;
         }
 
         int popInto(Log now) {
@@ -999,7 +1007,10 @@ public final class GroupCommits {
                 return NONE;
             }
             size--;
-            now.copyFrom(states[(oldest + size) % ROOM]);
+            Log state = stateAt(size);
+            if (state != null) {
+                now.copyFrom(state);
+            }
             return size;
         }
     }
@@ -1138,7 +1149,7 @@ public final class GroupCommits {
         int orders() {
             int orders = 1;
             for (int index = 0; index < length; index++) {
-                if (characters[index] == ';') {
+                if (characterAt(index) == ';') {
                     orders++;
                 }
             }

@@ -21,6 +21,9 @@ public final class FaceTest {
     // None of these is needed, so none is written: libraries, exceptions, code that the rules leave out.
     private static final List<String> ABSENT = List.of("import ", "package ", "catch", "finally", "throw", "->", "::",
         "synchronized", "assert ", "volatile", "native", "Object", "System.out", "Exception", "while (true)");
+    // A place of a row of objects may hold null, so it is looked at before it is used (rule 7).
+    private static final String PLACE_USED_UNSEEN = "].";
+    private static final int MOST_LINES = 60;
 
     private static int wrong = 0;
 
@@ -45,9 +48,19 @@ public final class FaceTest {
             if (!Modifier.isPrivate(method.getModifiers())) {
                 due(method + " is public and not static", method.getModifiers(), Modifier.PUBLIC);
                 seen.add(signature(method));
+            } else {
+                due(method + " has a name of its own", faceNames().contains(method.getName()), false);
             }
         }
         due("methods", seen, new TreeSet<>(METHODS));
+    }
+
+    private static TreeSet<String> faceNames() {
+        TreeSet<String> names = new TreeSet<>();
+        for (String method : METHODS) {
+            names.add(method.substring(method.indexOf(' ') + 1, method.indexOf('(')));
+        }
+        return names;
     }
 
     private static void constants() throws IllegalAccessException {
@@ -66,16 +79,12 @@ public final class FaceTest {
         Constructor<?>[] constructors = GroupCommits.class.getDeclaredConstructors();
         due("constructors", constructors.length, 1);
         due("the constructor", constructors[0].getModifiers(), Modifier.PUBLIC);
-        TreeSet<String> face = new TreeSet<>();
-        for (String method : METHODS) {
-            face.add(method.substring(method.indexOf(' ') + 1, method.indexOf('(')));
-        }
         Class<?>[] inside = GroupCommits.class.getDeclaredClasses();
         due("at most twelve classes", inside.length < 12, true);
         for (Class<?> one : inside) {
             due(one + " is static", Modifier.isStatic(one.getModifiers()), true);
             due(one + " is not public", Modifier.isPublic(one.getModifiers()), false);
-            insideOf(one, face);
+            insideOf(one, faceNames());
         }
     }
 
@@ -98,9 +107,25 @@ public final class FaceTest {
         for (String word : ABSENT) {
             due("the program has '" + word + "'", source.contains(word), false);
         }
+        due("a place of a row is looked at before it is used", source.contains(PLACE_USED_UNSEEN), false);
         for (int i = 0; i < source.length(); i++) {
             due("the sign at " + i, source.charAt(i) < 128, true);
         }
+    }
+
+    /** A method or constructor begins with an indented line that ends in ") {" and ends with a brace indented as far. */
+    private static void lengths() throws IOException {
+        List<String> lines = Files.readAllLines(Path.of("src/main/java/GroupCommits.java"));
+        int methods = 0;
+        for (int begin = 0; begin < lines.size(); begin++) {
+            if (lines.get(begin).matches("(    |        )[A-Za-z].*\\) \\{")) {
+                String end = lines.get(begin).replaceAll("\\S.*", "") + "}";
+                int length = lines.subList(begin, lines.size()).indexOf(end) + 1;
+                due("the lines of " + lines.get(begin).trim() + " are at most 60", length > 0 && length <= MOST_LINES, true);
+                methods++;
+            }
+        }
+        due("methods were found", methods > METHODS.size(), true);
     }
 
     public static void main(String[] args) throws IOException, IllegalAccessException {
@@ -108,6 +133,7 @@ public final class FaceTest {
         constants();
         classes();
         text();
+        lengths();
         System.out.println(wrong == 0 ? "the face is as due" : wrong + " things are not as due");
         if (wrong != 0) {
             System.exit(1);
